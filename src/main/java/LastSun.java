@@ -10,6 +10,7 @@ public final class LastSun {
     private static final int ROWS = 8, LANES = 3, ITEMS = 40;
     private static final int GUESTS = 4, HOURS = 6, SPLITS = 3, IMAGES = 2;
     private static final int LAST_DAY = 999, MOST_GIFT = 999, MOST_MONEY = 9999, MOST_SUNSETS = 60;
+    private static final int ANY_NUMBER = 2147483647;
     private static final int ANYBODY = 0, LONE = 1, AUNT = 2, CHILD = 3, BAND = 4, CLAN = 5;
 
     private final Row[] rows = new Row[ROWS];
@@ -18,8 +19,8 @@ public final class LastSun {
     private final Beach draft = new Beach();
     private final Tape tape = new Tape();
     private final Past past = new Past();
-    private final Day day = new Day();
-    private final Foretold foretold = new Foretold(day);
+    private final Foretold foretold = new Foretold();
+    private final Day day = foretold.day;
     private final Asks asks = new Asks();
     private int status;
 
@@ -296,7 +297,7 @@ public final class LastSun {
     }
 
     public int explained(int row, int guest) {
-        int refusal = look(row, guest == -1 || beach.has(guest), Integer.MAX_VALUE);
+        int refusal = look(row, guest == -1 || beach.has(guest), ANY_NUMBER);
         if (refusal != 0) {
             return refusal;
         }
@@ -977,16 +978,12 @@ public final class LastSun {
         static final int CHOICES = HOURS + 1, MOST_ROUNDS = 20;
         static final int ODDS = 10, ALL_ODDS = 1000000;
 
-        final Day day;
+        final Day day = new Day();
         final int[] worths = new int[CHOICES];
         final int[] told = new int[GUESTS];
         /** HOURS of each GUEST that a search has found; NONE where it found none. */
         final int[] common = new int[GUESTS];
         int ownersSum;
-
-        Foretold(Day day) {
-            this.day = day;
-        }
 
         /** BEST; it leaves in worths what each number of its own HOURS were worth to it. */
         int bestOf(int guest) {
@@ -1147,7 +1144,7 @@ public final class LastSun {
 
         int fairestSplit() {
             int fairest = 0;
-            int least = Integer.MAX_VALUE;
+            int least = ANY_NUMBER;
             for (int split = 0; split < SPLITS; split++) {
                 day.split = split;
                 int gap = gapOfWorths();

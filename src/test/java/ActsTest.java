@@ -16,6 +16,7 @@ public final class ActsTest {
         nobodyThere();
         debts();
         mostDebt();
+        lastDay();
         undo();
         forgotten();
         guest();
@@ -250,6 +251,20 @@ public final class ActsTest {
         Sun.due("gift", x.gift(0, 999), 9000);
         Sun.due("owes", x.owes(0, 1), 9900);
         Sun.due("owes at most", x.owes(0, 2), 9999);
+    }
+
+    /** More calls than the document promises anything for, as DAY 999 lies behind them. */
+    private static void lastDay() {
+        LastSun x = Sun.on("law 0 0;sun 1 1 1 1 1 1;", 0);
+        for (int d = 0; d < 999; d++) {
+            Sun.hours(x, 6);
+            Sun.due("sunset " + d, x.sunset(), 0);
+        }
+        Sun.due("STATE ahead of FULL", x.sunset(), Sun.STATE);
+        Sun.hours(x, 6);
+        Sun.due("sunset on day 999", x.sunset(), Sun.FULL);
+        Sun.due("days", x.count(3), 999);
+        Sun.due("hours", x.count(2), 6);
     }
 
     private static void undo() {
