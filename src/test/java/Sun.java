@@ -5,17 +5,30 @@ final class Sun {
     static final int NONE = LastSun.NONE, BAD = LastSun.BAD, STATE = LastSun.STATE, FULL = LastSun.FULL;
     static final int NULL = -1000011, PLACE = -1000012, KIND = -1000013, SIZE = -1000014, STORE = -1000015;
 
+    private static final int MOST_TOLD = 50;
     private static int wrong = 0;
     private static int asked = 0;
+    private static String about = "";
 
     private Sun() {
+    }
+
+    /** The sentence that the next answers are about; it is told with those that are wrong. */
+    static void about(String sentence) {
+        about = sentence;
     }
 
     static void due(String call, long got, long want) {
         asked++;
         if (got != want) {
             wrong++;
-            System.out.println(call + " answered " + got + ", due is " + want);
+            tell(about + call + " answered " + got + ", due is " + want);
+        }
+    }
+
+    private static void tell(String line) {
+        if (wrong <= MOST_TOLD) {
+            System.out.println(line);
         }
     }
 

@@ -1,0 +1,61 @@
+import java.io.IOException;
+import java.io.UncheckedIOException;
+import java.nio.file.Files;
+import java.nio.file.Path;
+import java.util.TreeMap;
+
+/** The document: which sentence a test is about, and which ones no test has named. */
+final class Doc {
+    private static final int TERMS = 0, PROMISES = 35;
+    /** What the document says by promise (0: its Terms), and what of that no test has named yet. */
+    private static final TreeMap<Integer, String> SAID = read();
+    private static final TreeMap<Integer, String> LEFT = new TreeMap<>(SAID);
+
+    private Doc() {
+    }
+
+    private static TreeMap<Integer, String> read() {
+        String text;
+        try {
+            text = Files.readString(Path.of("../shared/DOC.md"));
+        } catch (IOException e) {
+            throw new UncheckedIOException(e);
+        }
+        text = text.replaceAll("(?m)^```.*$", " ").replaceAll("======== \\d", " ");
+        TreeMap<Integer, String> said = new TreeMap<>();
+        said.put(TERMS, plain(between(text, "## Terms", "## Promise 1:")));
+        for (int promise = 1; promise <= PROMISES; promise++) {
+            String next = promise == PROMISES ? "## Not promised" : "## Promise " + (promise + 1) + ":";
+            String part = between(text, "## Promise " + promise + ":", next);
+            said.put(promise, plain(part.substring(part.indexOf('\n')).replaceFirst("`[^`]*`:", "")));
+        }
+        return said;
+    }
+
+    private static String between(String text, String from, String to) {
+        int start = text.indexOf(from);
+        int end = text.indexOf(to);
+        return start < 0 || end < start ? "" : text.substring(start + from.length(), end);
+    }
+
+    private static String plain(String text) {
+        return text.replaceAll("\\s+", " ").trim();
+    }
+
+    /** The answers that follow are about this sentence, which must stand in the document word by word. */
+    static void says(int promise, String sentence) {
+        String where = promise == TERMS ? "Terms" : "Promise " + promise;
+        Sun.about(where + " (" + sentence + "): ");
+        Sun.due("the document says so", SAID.get(promise).contains(sentence) ? 1 : 0, 1);
+        LEFT.put(promise, LEFT.get(promise).replace(sentence, " "));
+    }
+
+    /** Nothing of the Terms and of the promises is left that no test has named. */
+    static void dueAllNamed() {
+        Sun.about("");
+        LEFT.forEach((promise, left) -> {
+            String words = left.replaceAll("[^A-Za-z0-9]", "");
+            Sun.due("Promise " + promise + ": no test names '" + left.trim() + "', which", words.length(), 0);
+        });
+    }
+}
