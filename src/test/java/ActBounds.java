@@ -27,6 +27,7 @@ final class ActBounds extends Bounds {
         mostDebtByPay();
         lastDay();
         undo();
+        lastCall();
         guest();
         priceOfHours();
     }
@@ -449,6 +450,19 @@ final class ActBounds extends Bounds {
         };
         answers(one, 0, "undo");
         due(x, STATE, "undo");
+    }
+
+    /** The 511th and the 512th call answer as the first ones. */
+    private static void lastCall() {
+        says(Doc.WHAT_IT_IS, "An object is used for at most 512 calls after it has been made; "
+            + "what later calls answer is free.");
+        LastSun x = Scenes.after(Scenes.read("law 0 0;sun 7 1 1 1 1 1;guest lone 1 1 1;"));
+        int callsSoFar = 6 + 1;
+        due(x, 1, "count", 1);
+        for (int call = callsSoFar + 1; call < 512; call += 2) {
+            due(x, 7, "hour");
+            due(x, 0, "undo");
+        }
     }
 
     /** GUEST 2 left behind 3 HOURS of DAY 0, and behind 5 of DAY 1; GUEST 0 behind 1 of DAY 1. */

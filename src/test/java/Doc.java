@@ -6,10 +6,12 @@ import java.util.TreeMap;
 
 /** The document: which sentence a test is about, and which ones no test has named. */
 final class Doc {
-    private static final int TERMS = 0, PROMISES = 35;
-    /** What the document says by promise (0: its Terms), and what of that no test has named yet. */
+    /** Parts of the document that are no promises. */
+    static final int WHAT_IT_IS = -1, TERMS = 0;
+    private static final int PROMISES = 35;
+    /** What the document says, by promise, and what of its Terms and promises no test has named yet. */
     private static final TreeMap<Integer, String> SAID = read();
-    private static final TreeMap<Integer, String> LEFT = new TreeMap<>(SAID);
+    private static final TreeMap<Integer, String> LEFT = new TreeMap<>(SAID.tailMap(TERMS));
 
     private Doc() {
     }
@@ -23,6 +25,7 @@ final class Doc {
         }
         text = text.replaceAll("(?m)^```.*$", " ").replaceAll("======== \\d", " ");
         TreeMap<Integer, String> said = new TreeMap<>();
+        said.put(WHAT_IT_IS, plain(between(text, "## What it is", "## The public face")));
         said.put(TERMS, plain(between(text, "## Terms", "## Promise 1:")));
         for (int promise = 1; promise <= PROMISES; promise++) {
             String next = promise == PROMISES ? "## Not promised" : "## Promise " + (promise + 1) + ":";
@@ -44,10 +47,10 @@ final class Doc {
 
     /** The answers that follow are about this sentence, which must stand in the document word by word. */
     static void says(int promise, String sentence) {
-        String where = promise == TERMS ? "Terms" : "Promise " + promise;
+        String where = promise == WHAT_IT_IS ? "What it is" : promise == TERMS ? "Terms" : "Promise " + promise;
         Sun.about(where + " (" + sentence + "): ");
         Sun.due("the document says so", SAID.get(promise).contains(sentence) ? 1 : 0, 1);
-        LEFT.put(promise, LEFT.get(promise).replace(sentence, " "));
+        LEFT.computeIfPresent(promise, (p, left) -> left.replace(sentence, " "));
     }
 
     /** Nothing of the Terms and of the promises is left that no test has named. */

@@ -4,6 +4,7 @@ import java.util.List;
 final class TextBounds extends Bounds {
     private static final String LAW = "law 1 2;", SUN = "sun 1 2 3 4 5 6;", HEAD = LAW + SUN;
     private static final String LONE = "guest lone 6 40 4;";
+    private static final String[] SORTS = {"lone", "aunt", "child", "band", "clan"};
     private static final Scenes.Scene RICH = Scenes.RICH;
 
     private TextBounds() {
@@ -273,11 +274,10 @@ final class TextBounds extends Bounds {
     }
 
     private static void sorts() {
-        String[] sorts = {"lone", "aunt", "child", "band", "clan"};
         for (int s = 0; s < 5; s++) {
-            due(read(HEAD + "guest " + sorts[s] + " 6 40 4;", 1), s + 1, "kind", 0);
-            faulty(HEAD + "guest " + sorts[s] + "s 6 40 4;", 30, 1);
-            faulty(HEAD + "guest " + sorts[s].substring(0, 3) + " 6 40 4;", 30, 1);
+            due(read(HEAD + "guest " + SORTS[s] + " 6 40 4;", 1), s + 1, "kind", 0);
+            faulty(HEAD + "guest " + SORTS[s] + "s 6 40 4;", 30, 1);
+            faulty(HEAD + "guest " + SORTS[s].substring(0, 3) + " 6 40 4;", 30, 1);
         }
         faulty(HEAD + "guest guest 6 40 4;", 30, 1);
         faulty(HEAD + "guest law 6 40 4;", 30, 1);
@@ -286,8 +286,8 @@ final class TextBounds extends Bounds {
 
     /** No word is another one but for a letter. */
     private static void oneLetterElse() {
-        for (int sort = 1; sort <= 5; sort++) {
-            String text = LAW + SUN + "guest " + new String[] {"", "lone", "aunt", "child", "band", "clan"}[sort] + " 1 1 1;";
+        for (String sort : SORTS) {
+            String text = HEAD + "guest " + sort + " 1 1 1;";
             for (int i = 0; i < text.length(); i++) {
                 if (text.charAt(i) >= 'a' && text.charAt(i) <= 'z') {
                     int word = i;
