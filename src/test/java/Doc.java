@@ -2,7 +2,11 @@ import java.io.IOException;
 import java.io.UncheckedIOException;
 import java.nio.file.Files;
 import java.nio.file.Path;
+import java.util.Set;
 import java.util.TreeMap;
+import java.util.TreeSet;
+import java.util.regex.Matcher;
+import java.util.regex.Pattern;
 
 /** The document: which sentence a test is about, and which ones no test has named. */
 final class Doc {
@@ -16,14 +20,28 @@ final class Doc {
     private Doc() {
     }
 
-    private static TreeMap<Integer, String> read() {
-        String text;
+    private static String whole() {
         try {
-            text = Files.readString(Path.of("../shared/DOC.md"));
+            return Files.readString(Path.of("../shared/DOC.md"));
         } catch (IOException e) {
             throw new UncheckedIOException(e);
         }
-        text = text.replaceAll("(?m)^```.*$", " ").replaceAll("======== \\d", " ");
+    }
+
+    /** The methods of the public face, each with the types that it takes: "feed(JI)". */
+    static Set<String> face() {
+        Set<String> face = new TreeSet<>();
+        Matcher m = Pattern.compile("public int (\\w+)\\(([^)]*)\\);").matcher(
+            between(whole(), "## The public face", "## Terms"));
+        while (m.find()) {
+            String types = m.group(2).replaceAll("int \\w+", "I").replaceAll("long \\w+", "J");
+            face.add(m.group(1) + "(" + types.replace(", ", "") + ")");
+        }
+        return face;
+    }
+
+    private static TreeMap<Integer, String> read() {
+        String text = whole().replaceAll("(?m)^```.*$", " ").replaceAll("======== \\d", " ");
         TreeMap<Integer, String> said = new TreeMap<>();
         said.put(WHAT_IT_IS, plain(between(text, "## What it is", "## The public face")));
         said.put(TERMS, plain(between(text, "## Terms", "## Promise 1:")));

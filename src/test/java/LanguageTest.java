@@ -14,11 +14,7 @@ import java.util.regex.Pattern;
 /** What of ../shared/LANGUAGE.md a program can look at: the face, and the words of the source. */
 public final class LanguageTest {
     private static final Path SOURCE = Path.of("src/main/java/LastSun.java");
-    private static final Set<String> FACE = Set.of("row(III)", "set(III)", "copy(IIIII)", "drop(I)", "feed(JI)",
-        "beach()", "fault()", "hour()", "leave(I)", "cloud(I)", "shade(II)", "gift(II)", "sunset()", "undo()",
-        "guest(II)", "price(I)", "worth(III)", "best(II)", "rounds(II)", "rests(I)", "pact(IIII)", "alone(III)",
-        "explained(II)", "laws(II)", "owner(II)", "owes(II)", "image(I)", "restore(I)", "kind(I)", "as(II)",
-        "ask(II)", "trace(I)", "count(I)", "status()");
+    private static final Set<String> FACE = Doc.face();
     private static final List<String> FORBIDDEN = List.of("throw", "try", "catch", "synchronized", "assert",
         "import", "package", "double", "float", "native", "volatile", "hashCode", "toString", "currentTimeMillis",
         "nanoTime", "random", "Thread", "static\\s*\\{", "->", "::", "\\bvar\\b", "Exact", "protected");
@@ -52,6 +48,7 @@ public final class LanguageTest {
                 Sun.due(m + " is public and answers an int", isPublicInt(m) ? 1 : 0, 1);
             }
         }
+        Sun.due("methods of the document", FACE.size(), 34);
         Sun.due("the face is that of the document: " + seen, seen.equals(FACE) ? 1 : 0, 1);
         int others = 0;
         for (Field f : LastSun.class.getDeclaredFields()) {
